@@ -313,15 +313,12 @@ public final class RowVeils {
         return mixing;
     }
 
-    /** LANGUAGE.md leaves Double.doubleToLongBits out, so the bits of a share, 0.0 to 1.0, are put together here. */
+    /** LANGUAGE.md leaves Double.doubleToLongBits out, so the bits of a share, 0.2 to 1.0, are put together here. */
     private static long bitsOfShare(double share) {
-        if (!(share > 0.0)) {
-            return 0L;
-        }
         double leading = share;
         long exponent = 1023L;
-        // Doubling is exact, and no share above 0.0 is below 1/80.
-        for (int i = 0; i < 64 && leading < 1.0; i++) {
+        // Each row's owner sees it, so no share is below 1/5, and three doublings, which are exact, are enough.
+        for (int i = 0; i < 3 && leading < 1.0; i++) {
             leading = leading * 2.0;
             exponent--;
         }
@@ -347,7 +344,7 @@ public final class RowVeils {
 
     private int answerIf(int asker, int place, int least, int greatest, int what) {
         if (what == 3) {
-            return Integer.bitCount(state.rows.matching(place, least, greatest));
+            return state.rows.howManyMatch(place, least, greatest);
         }
         int mask = state.seenRows(asker, place, least, greatest);
         switch (what) {
@@ -486,15 +483,15 @@ public final class RowVeils {
             return (place == NONE || places.get(row) == place) && value >= least && value <= greatest;
         }
 
-        /** A mask of the rows that a question is for, veiled or not. */
-        int matching(int place, int least, int greatest) {
-            int mask = 0;
+        /** How many rows a question is for, veiled or not. */
+        int howManyMatch(int place, int least, int greatest) {
+            int many = 0;
             for (int row = 0; row < size; row++) {
                 if (isMatching(row, place, least, greatest)) {
-                    mask |= 1 << row;
+                    many++;
                 }
             }
-            return mask;
+            return many;
         }
 
         void copyFrom(Rows other) {
@@ -671,7 +668,7 @@ public final class RowVeils {
 
         int leastCoarseness(int asker, int place) {
             int seen = Integer.bitCount(seenRows(asker, place, 0, MOST_VALUE));
-            int all = Integer.bitCount(rows.matching(place, 0, MOST_VALUE));
+            int all = rows.howManyMatch(place, 0, MOST_VALUE);
             for (int step = 1; step <= MOST_COARSENESS; step++) {
                 if (roundedDown(seen, step) == roundedDown(all, step)) {
                     return step;

@@ -97,6 +97,11 @@ public final class LooksTest {
         x.force(2, false);
         x.force(0, false);
         Check.due("blindest: nothing veiled", x.blindest(), 0);
+        RowVeils y = new RowVeils();
+        for (int i = 0; i < 16; i++) {
+            y.row(0, 0, i == 7 ? 90 : 0, 0);
+        }
+        Check.due("blindest: 15 of 16", y.blindest(), 1);
     }
 
     private static void needed() {
@@ -116,6 +121,14 @@ public final class LooksTest {
         x.row(0, 0, 5, 0);
         x.row(0, 0, 6, 0);
         Check.due("needed: 6 of 8", x.needed(1, NONE), 3);
+        x.row(0, 2, 0, 0);
+        Check.due("needed: a seen row of value 0", x.needed(1, 2), 1);
+        x.row(0, 2, 99, 0);
+        Check.due("needed: and a veiled one", x.needed(1, 2), 3);
+        x.row(0, 3, 0, 0);
+        x.person(1, 0, 3);
+        x.row(0, 3, 0, 1);
+        Check.due("needed: a veiled row of value 0", x.needed(1, 3), 3);
         Check.dueIndex(x, "needed: asker 5", () -> x.needed(5, NONE));
         Check.dueIndex(x, "needed: asker -1", () -> x.needed(-1, 0));
         Check.dueIndex(x, "needed: place 4", () -> x.needed(0, 4));

@@ -107,6 +107,8 @@ public final class QuestionsTest {
         x.ask(1, 0, 0, 99);
         Check.due("ask: a neighbour's question", x.remembered(1, 0), 1 + 16 + 32);
         Check.due("ask: the last one of 0 stays", x.remembered(0, 5), 4);
+        x.ask(0, 3, 0, 99);
+        Check.due("ask: the neighbour's question is still there", x.remembered(1, 0), 1 + 16 + 32);
         Check.due("ask: the same question twice is remembered twice", x.ask(1, 0, 0, 99) + x.personOf(1, 5), 5);
     }
 

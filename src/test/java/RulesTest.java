@@ -155,6 +155,12 @@ public final class RulesTest {
         Check.due("veils: without a master", x.veils(1, 0), 0);
         Check.due("veils: master of the owner of row 2", x.veils(0, 2), 8);
         Check.due("veils: the master has none", x.veils(4, 2), 0);
+        for (int rule = 0; rule < 4; rule++) {
+            x.force(rule, true);
+        }
+        x.person(0, 3, 0);
+        Check.due("veils: by a rank of 3, at home, by masters alone", x.veils(0, 2), 8);
+        Check.due("hides: by masters alone", x.hides(3), 1);
     }
 
     private static void veilsWrong() {
@@ -189,6 +195,8 @@ public final class RulesTest {
         x.force(0, false);
         Check.due("hides: out of force", x.hides(0), 0);
         Check.dueLook(x, "hides: the other one then", 3, () -> x.hides(1));
+        x.drop(2);
+        Check.due("hides: a dropped row no longer", x.hides(1), 0);
         Check.dueIndex(x, "hides: 4", () -> x.hides(4));
         Check.dueIndex(x, "hides: -1", () -> x.hides(-1));
     }
