@@ -10,6 +10,20 @@ final class Check {
     private Check() {
     }
 
+    static int looked() {
+        return looked;
+    }
+
+    static int wrong() {
+        return wrong;
+    }
+
+    static void fail(String what) {
+        looked++;
+        wrong++;
+        System.out.println(what);
+    }
+
     static void due(String call, long got, long want) {
         looked++;
         if (got != want) {
